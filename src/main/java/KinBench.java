@@ -313,6 +313,11 @@ public final class KinBench {
         return age >= 0 && age <= MOST_AGE;
     }
 
+    /** Whether a row that has a place for each role, or for each person, has this place. */
+    private static boolean isPlace(int i) {
+        return i >= 0 && i < MOST_ROLES;
+    }
+
     /** A way is held as one number, four bits for the person of each role. */
     private static int personIn(long way, int role) {
         return (int) (way >>> (4 * role)) & 15;
@@ -479,10 +484,6 @@ public final class KinBench {
             return hasRecord(number) && original[number] == NONE;
         }
 
-        boolean isCopy(int role) {
-            return hasRole(role) && copyOf[role] != NONE;
-        }
-
         int sizeOf(int number) {
             return hasRecord(number) ? size[number] : 0;
         }
@@ -636,15 +637,14 @@ public final class KinBench {
 
         private void prepareDistances(int role) {
             for (int other = 0; other < role; other++) {
-                boolean counts = !archive.isCopy(role) && !archive.isCopy(other);
-                int distance = counts ? ear.distance(archive.name[role], archive.name[other]) : 0;
+                int distance = ear.distance(archive.name[role], archive.name[other]);
                 apart[role * MOST_ROLES + other] = distance;
                 apart[other * MOST_ROLES + role] = distance;
             }
         }
     }
 
-    /** The persons of the way that is being sought; a copy's roles add nothing to them. */
+    /** The persons of the way that is being sought; a copy's roles bind and cost nothing more, so they don't join. */
     private static final class People {
         private final Table table;
         private final int[] earliest = new int[MOST_ROLES];
@@ -665,13 +665,9 @@ public final class KinBench {
             this.table = table;
         }
 
-        private static boolean areIn(int person, int role) {
-            return person >= 0 && person < MOST_ROLES && role >= 0 && role < MOST_ROLES;
-        }
-
         /** Whether the laws let a role be a person's; the person after the last is a new one. */
         boolean admits(int person, int role) {
-            if (!areIn(person, role)) {
+            if (!isPlace(person) || !isPlace(role)) {
                 return false;
             }
             if (person >= count) {
@@ -686,7 +682,7 @@ public final class KinBench {
 
         /** What it costs if a role becomes a person's. */
         int added(int person, int role) {
-            if (!areIn(person, role)) {
+            if (!isPlace(person) || !isPlace(role)) {
                 return 0;
             }
             if (person >= count) {
@@ -700,7 +696,7 @@ public final class KinBench {
         }
 
         void join(int person, int role) {
-            if (!areIn(person, role)) {
+            if (!isPlace(person) || !isPlace(role)) {
                 return;
             }
             if (person >= count) {
@@ -740,7 +736,7 @@ public final class KinBench {
 
         /** Takes back the latest join of the person, which was this role's. */
         void leave(int person, int role) {
-            if (!areIn(person, role) || person >= count) {
+            if (!isPlace(person) || !isPlace(role) || person >= count) {
                 return;
             }
             if (size[person] <= 1) {
@@ -805,8 +801,11 @@ public final class KinBench {
                 return;
             }
             int role = seeker.order[depth];
+            if (!isPlace(role)) {
+                return;
+            }
             int source = seeker.archive.copyOf[role];
-            if (source >= 0 && source < MOST_ROLES) {
+            if (isPlace(source)) {
                 if (seeker.mayTry()) {
                     seeker.personOf[role] = seeker.personOf[source];
                     place(seeker, depth + 1);
@@ -854,7 +853,10 @@ public final class KinBench {
         private long packed() {
             long way = 0;
             for (int i = 0; i < count && i < MOST_ROLES; i++) {
-                way |= (long) personOf[order[i]] << (4 * order[i]);
+                int role = order[i];
+                if (isPlace(role)) {
+                    way |= (long) personOf[role] << (4 * role);
+                }
             }
             return way;
         }
@@ -863,10 +865,16 @@ public final class KinBench {
         private void narrowJoined() {
             Arrays.fill(rolesOf, 0);
             for (int i = 0; i < count && i < MOST_ROLES; i++) {
-                rolesOf[personOf[order[i]]] |= 1 << order[i];
+                int role = order[i];
+                if (isPlace(role) && isPlace(personOf[role])) {
+                    rolesOf[personOf[role]] |= 1 << role;
+                }
             }
             for (int i = 0; i < count && i < MOST_ROLES; i++) {
-                joined[order[i]] &= rolesOf[personOf[order[i]]];
+                int role = order[i];
+                if (isPlace(role) && isPlace(personOf[role])) {
+                    joined[role] &= rolesOf[personOf[role]];
+                }
             }
         }
 

@@ -90,23 +90,27 @@ public final class ProofTest {
         due.is("21 without copies", z.quarrel(), 7);
     }
 
-    /** Three long after others need more than is left; five pairs without them are in too many ways. */
+    /** Three long after others need more than is left; pairs without them are in too many ways. */
     private static void spentQuarrel() {
         KinBench x = new KinBench();
         PlainBench o = new PlainBench();
+        int[] sexes = {2, 1, 0, 0, 0, 1, 1, 1, 0, 0};
         for (int i = 0; i < 5; i++) {
-            x.witness(100, 0, 0, 0, 0);
-            o.witness(100, 0, "", 0, "");
+            x.witness(1800, sexes[2 * i], 0, sexes[2 * i + 1], 0);
+            o.witness(1800, sexes[2 * i], "", sexes[2 * i + 1], "");
         }
-        for (int i = 0; i < 3; i++) {
-            x.list(1000 + 500 * i, 0, 0, NONE);
-            o.list(1000 + 500 * i, 0, "", -1);
+        for (int year = 2200; year <= 2600; year += 200) {
+            x.list(year, 0, 0, NONE);
+            o.list(year, 0, "", -1);
         }
-        for (int budget = 1; budget <= 5; budget++) {
+        for (int budget = 1; budget <= 6; budget++) {
             x.budget(budget, 1);
             o.budget(budget, 1);
             due.is("21 ways with " + budget, x.ways(), o.ways());
             due.is("21 with " + budget, x.quarrel(), o.quarrel());
         }
+        x.budget(5, 1);
+        due.is("21 no way", x.ways(), 0);
+        due.is("21 a set is spent", x.quarrel(), NONE);
     }
 }

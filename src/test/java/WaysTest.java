@@ -24,6 +24,7 @@ public final class WaysTest {
         spentByWays();
         mostWays();
         spentByTries();
+        mostTries();
         lastImpossible();
         due.end();
     }
@@ -274,6 +275,33 @@ public final class WaysTest {
         due.is("15 no way", x.ways(), 0);
         due.is("24 tries", x.about(3) > 3000 && x.about(3) < 300000, true);
         due.is("21 a pair and the wedding", x.quarrel(), 1 | 1 << 6);
+    }
+
+    /** Just as many tries as are made, and one more. */
+    private static void mostTries() {
+        KinBench x = new KinBench();
+        x.witness(1850, 2, ANNA, 2, ANNA);
+        x.witness(1850, 2, ANNA, 1, ANN);
+        x.witness(1850, 0, ANNA, 0, JAN);
+        x.witness(1900, 0, HANS, 0, 0);
+        x.witness(1850, 1, HANS, 0, ANNA);
+        x.witness(1900, 0, ANNA, 2, HANS);
+        x.wedding(2500, 0, 0);
+        x.budget(9, 1);
+        due.is("15 enough", x.ways(), 1628);
+        due.is("24 300,000 tries", x.about(3), 300000);
+        KinBench y = new KinBench();
+        y.witness(1850, 0, ANNA, 0, ANNA);
+        y.witness(1900, 1, ANN, 0, ANN);
+        y.witness(1850, 0, HANS, 1, HANS);
+        y.witness(1900, 2, 0, 0, ANNA);
+        y.witness(1850, 1, ANNA, 1, ANN);
+        y.witness(1800, 2, ANN, 1, 0);
+        y.wedding(2500, 0, 0);
+        y.budget(18, 2);
+        due.is("15 a 300,001st is needed", y.ways(), -2);
+        due.is("24 300,000 were made", y.about(3), 300000);
+        due.is("17 spent", y.cost(0), NONE);
     }
 
     /** One who can't be grown up comes last, after all others have been joined in all ways. */

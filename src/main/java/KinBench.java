@@ -142,7 +142,7 @@ public final class KinBench {
     }
 
     public boolean sound(int a, int b, boolean is) {
-        if (!Names.isLetter(a) || !Names.isLetter(b)) {
+        if (!Names.isLetter(a) || !Names.isLetter(b) || !Ear.canBe(a, b, is)) {
             return false;
         }
         ear.setAlike(a, b, is);
@@ -365,7 +365,11 @@ public final class KinBench {
         private final boolean[] alike = new boolean[ROW * ROW];
         private final int[] row = new int[MOST_LETTERS + 1];
 
-        /** A letter sounds like itself always, so that is not kept. */
+        /** A letter sounds like itself always, so it can't be told not to. */
+        static boolean canBe(int a, int b, boolean is) {
+            return is || a != b;
+        }
+
         void setAlike(int a, int b, boolean is) {
             alike[(a & ROW_MASK) * ROW + (b & ROW_MASK)] = is;
             alike[(b & ROW_MASK) * ROW + (a & ROW_MASK)] = is;

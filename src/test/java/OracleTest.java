@@ -99,7 +99,7 @@ public final class OracleTest {
                 break;
             default:
                 int s = pick(2) == 0 ? 2 : pick(27);
-                int t = pick(2) == 0 ? 10 : pick(27);
+                int t = pick(4) == 0 ? s : pick(2) == 0 ? 10 : pick(27);
                 boolean is = pick(3) != 0;
                 due.is(n + " sound", x.sound(s, t, is), o.sound(s, t, is));
         }

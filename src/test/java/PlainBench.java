@@ -121,7 +121,7 @@ final class PlainBench {
     }
 
     boolean sound(int a, int b, boolean is) {
-        if (a < 0 || a > 25 || b < 0 || b > 25) {
+        if (a < 0 || a > 25 || b < 0 || b > 25 || a == b && !is) {
             return false;
         }
         alike[a][b] = is;

@@ -9,6 +9,7 @@ public final class RulesTest {
     public static void main(String[] args) {
         laws();
         sound();
+        soundOfItself();
         budget();
         far();
         about();
@@ -54,11 +55,37 @@ public final class RulesTest {
         due.is("11 not", x.sound(10, 2, false), true);
         due.is("11 no more", x.far(c, k), 1);
         due.is("11 other stays", x.far(q, k), 0);
-        due.is("11 itself", x.sound(0, 0, false), true);
-        due.is("11 itself always", x.far(ANN, ANN), 0);
-        due.is("11 itself always", x.far(ANN, Due.name("bnn")), 1);
         due.is("11 ends", x.sound(0, 25, true), true);
         due.is("11 ends", x.far(Due.name("a"), Due.name("z")), 0);
+    }
+
+    /** A letter sounds like itself always: telling so changes nothing, and telling not so can't be. */
+    private static void soundOfItself() {
+        for (int letter = 0; letter < 26; letter++) {
+            KinBench x = new KinBench();
+            long own = 'a' + letter;
+            int other = (letter + 1) % 26;
+            long next = 'a' + other;
+            due.is("11 not itself, new " + letter, x.sound(letter, letter, false), false);
+            due.is("11 itself always " + letter, x.far(own, own), 0);
+            due.is("11 itself " + letter, x.sound(letter, letter, true), true);
+            due.is("11 not itself, told " + letter, x.sound(letter, letter, false), false);
+            due.is("11 itself still " + letter, x.far(own, own), 0);
+            due.is("11 itself alone " + letter, x.far(own, next), 1);
+            due.is("11 the next " + letter, x.sound(letter, other, true), true);
+            due.is("11 not itself, like another " + letter, x.sound(letter, letter, false), false);
+            due.is("11 the next still " + letter, x.far(next, own), 0);
+        }
+        KinBench y = new KinBench();
+        due.is("11 beyond itself", y.sound(26, 26, true), false);
+        due.is("11 before itself", y.sound(-1, -1, true), false);
+        y.list(1800, 0, ANN, NONE);
+        y.list(1800, 0, Due.name("inn"), NONE);
+        y.sound(0, 8, true);
+        due.is("11 joined for nothing", y.ways(), 2);
+        due.is("11 not itself", y.sound(0, 0, false), false);
+        due.is("11 ways as before", y.ways(), 2);
+        due.is("11 tries as before", y.about(3), 3);
     }
 
     private static void budget() {

@@ -158,6 +158,18 @@ public final class RecordsTest {
         due.is("7 other is not asked for", x.witness(1800, 1, ANN, NONE, 65), 3);
     }
 
+    private static void copyOfTwo() {
+        KinBench x = new KinBench();
+        x.wedding(1800, ANN, HANS);
+        for (long no : Due.noNames()) {
+            due.is("8 of two, a " + no, x.copy(0, no, ANN, 0), NONE);
+            due.is("8 of two, b " + no, x.copy(0, ANN, no, 0), NONE);
+        }
+        due.is("8 nothing done", x.about(0) * 100 + x.about(1), 102);
+        due.is("8 of two", x.copy(0, HANS, ANN, 65), 1);
+        due.is("8 groom again", x.role(3, 5), 1);
+    }
+
     private static void copy() {
         KinBench x = new KinBench();
         due.is("8 of nothing", x.copy(0, ANN, ANN, ANN), NONE);
@@ -174,6 +186,7 @@ public final class RecordsTest {
         due.is("8 of a birth", x.copy(0, HANS, HANS, HANS), 3);
         due.is("8 of a copy", x.copy(2, ANN, 0, 0), NONE);
         due.is("8 another", x.copy(0, 0, 0, 0), 4);
+        copyOfTwo();
         due.is("8 about(1)", x.about(1), 11);
         int[] dead = {2, 1850, 2, 50, 5, 3};
         int[] father = {3, 1800, 2, NONE, 2, 2};

@@ -1,6 +1,7 @@
 /** Counts the answers of a test that are not as due. */
 final class Due {
     private final String test;
+    private String sentence = "";
     private int asked = 0;
     private int wrong = 0;
 
@@ -8,12 +9,17 @@ final class Due {
         this.test = test;
     }
 
+    /** What follows asks after this sentence of the document; it is told with each wrong answer. */
+    void says(int promise, String words) {
+        sentence = "promise " + promise + ", \"" + words + "\": ";
+    }
+
     void is(String call, long got, long want) {
         asked++;
         if (got != want) {
             wrong++;
             if (wrong <= 40) {
-                System.out.println(test + ": " + call + " answered " + got + ", due is " + want);
+                System.out.println(test + ": " + sentence + call + " answered " + got + ", due is " + want);
             }
         }
     }

@@ -62,7 +62,7 @@ public final class KinTest {
 
     /** With GROWN 0 a mother may be born in her child's year, and so be her own foremother. */
     private static void rings() {
-        KinBench x = new KinBench();
+        Bench x = new Bench();
         PlainBench o = new PlainBench();
         x.laws(0, 50, 70, 100, 0);
         o.laws(0, 50, 70, 100, 0);

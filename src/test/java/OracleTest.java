@@ -28,7 +28,7 @@ public final class OracleTest {
     }
 
     private static void run(int number) {
-        KinBench x = new KinBench();
+        Bench x = new Bench();
         PlainBench o = new PlainBench();
         int spread = 1 + pick(60);
         int base = pick(4) == 0 ? 0 : 1500 + pick(300);
@@ -46,7 +46,7 @@ public final class OracleTest {
         }
     }
 
-    private static void settle(int n, KinBench x, PlainBench o) {
+    private static void settle(int n, Bench x, PlainBench o) {
         int grown = pick(3) == 0 ? 0 : pick(20);
         int mother = Math.min(80, grown + pick(50));
         int father = Math.min(120, grown + pick(50));
@@ -55,7 +55,7 @@ public final class OracleTest {
         due.is(n + " laws", x.laws(grown, mother, father, life, round), o.laws(grown, mother, father, life, round));
     }
 
-    private static void change(int n, KinBench x, PlainBench o, int base, int spread, int variety) {
+    private static void change(int n, Bench x, PlainBench o, int base, int spread, int variety) {
         int year = base + pick(spread);
         int sex = pick(3);
         int age = pick(3) == 0 ? pick(Math.min(121, spread + 5)) : -1;
@@ -105,7 +105,7 @@ public final class OracleTest {
         }
     }
 
-    private static void ask(int n, KinBench x, PlainBench o) {
+    private static void ask(int n, Bench x, PlainBench o) {
         due.is(n + " about(3)", x.about(3), o.tries());
         if (pick(3) == 0) {
             due.is(n + " link out", x.link(pick(14), 14), o.link(0, 14));

@@ -5,7 +5,6 @@ public final class WaysTest {
     private static final long ANN = Due.name("ann");
     private static final long ANNA = Due.name("anna");
     private static final long HANS = Due.name("hans");
-    private static final long JAN = Due.name("jan");
 
     public static void main(String[] args) {
         ways();
@@ -22,9 +21,7 @@ public final class WaysTest {
         cost();
         links();
         spentByWays();
-        mostWays();
         spentByTries();
-        mostTries();
         lastImpossible();
         due.end();
     }
@@ -231,34 +228,6 @@ public final class WaysTest {
         due.is("15 no more spent", x.ways(), 877);
     }
 
-    /** Just as many ways as are sought, and one more. */
-    private static void mostWays() {
-        KinBench x = new KinBench();
-        x.witness(1803, 0, JAN, 2, 0);
-        x.witness(1820, 1, HANS, 2, 0);
-        x.wedding(1808, ANN, 0);
-        x.birth(1802, 1, ANN, 0, ANN);
-        x.list(1806, 0, 0, NONE);
-        x.budget(11, 1);
-        due.is("15 3,000 ways", x.ways(), 3000);
-        due.is("16 the last", x.person(2999, 0), 0);
-        due.is("16 one more", x.person(3000, 0), NONE);
-        due.is("17 the last", x.cost(2999) <= 11 && x.cost(2999) >= 0, true);
-        due.is("17 one more", x.cost(3000), NONE);
-        due.is("24 tries", x.about(3), 4415);
-        KinBench y = new KinBench();
-        y.wedding(1803, JAN, ANN);
-        y.wedding(1801, ANN, ANNA);
-        y.witness(1806, 2, ANNA, 2, ANNA);
-        y.death(1805, 2, JAN, NONE);
-        y.list(1808, 2, JAN, NONE);
-        y.death(1804, 1, ANN, NONE);
-        y.wedding(1802, ANNA, ANN);
-        y.budget(16, 1);
-        due.is("15 3,001 ways", y.ways(), -2);
-        due.is("16 spent", y.person(0, 0), NONE);
-    }
-
     /** Six pairs of at most four persons, of whom a wedding long after leaves but two. */
     private static void spentByTries() {
         KinBench x = new KinBench();
@@ -275,33 +244,6 @@ public final class WaysTest {
         due.is("15 no way", x.ways(), 0);
         due.is("24 tries", x.about(3) > 3000 && x.about(3) < 300000, true);
         due.is("21 a pair and the wedding", x.quarrel(), 1 | 1 << 6);
-    }
-
-    /** Just as many tries as are made, and one more. */
-    private static void mostTries() {
-        KinBench x = new KinBench();
-        x.witness(1850, 2, ANNA, 2, ANNA);
-        x.witness(1850, 2, ANNA, 1, ANN);
-        x.witness(1850, 0, ANNA, 0, JAN);
-        x.witness(1900, 0, HANS, 0, 0);
-        x.witness(1850, 1, HANS, 0, ANNA);
-        x.witness(1900, 0, ANNA, 2, HANS);
-        x.wedding(2500, 0, 0);
-        x.budget(9, 1);
-        due.is("15 enough", x.ways(), 1628);
-        due.is("24 300,000 tries", x.about(3), 300000);
-        KinBench y = new KinBench();
-        y.witness(1850, 0, ANNA, 0, ANNA);
-        y.witness(1900, 1, ANN, 0, ANN);
-        y.witness(1850, 0, HANS, 1, HANS);
-        y.witness(1900, 2, 0, 0, ANNA);
-        y.witness(1850, 1, ANNA, 1, ANN);
-        y.witness(1800, 2, ANN, 1, 0);
-        y.wedding(2500, 0, 0);
-        y.budget(18, 2);
-        due.is("15 a 300,001st is needed", y.ways(), -2);
-        due.is("24 300,000 were made", y.about(3), 300000);
-        due.is("17 spent", y.cost(0), NONE);
     }
 
     /** One who can't be grown up comes last, after all others have been joined in all ways. */

@@ -37,6 +37,7 @@ public final class ProofEdgesTest {
         kinOfLeastUp();
         kinOfFoundlings();
         kinOfCopies();
+        kinAfterDrop();
         longestKin();
         alwaysBounds();
         alwaysOfOneWay();
@@ -171,6 +172,7 @@ public final class ProofEdgesTest {
         due.is("a copy and what it is of", x.why(0, 2), 5);
         due.is("two copies", x.why(2, 3), 13);
         due.is("what it is of, with itself", x.why(0, 0), 1);
+        due.is("another, without the copies and what they are of", x.why(1, 1), 2);
     }
 
     /** Records that have 3,000 ways with BUDGET 13, and two or three who leave them less. */
@@ -299,6 +301,9 @@ public final class ProofEdgesTest {
         x.witness(1800, 0, 0, NONE, 0);
         x.copy(1, 0, 0, 0);
         due.is("what the copy is of, alone", x.quarrel(), 2);
+        x.drop();
+        x.copy(0, 0, 0, 0);
+        due.is("without a copy and what it is of", x.quarrel(), 2);
         KinBench y = Telling.withRecords(2);
         y.copy(0, 0, 0, 0);
         y.found(1900, 0, 0);
@@ -432,6 +437,21 @@ public final class ProofEdgesTest {
             due.is("father of the copy", x.kin(0, child, 5), 100);
         }
         due.is("father to mother", x.kin(0, 4, 2), NONE);
+    }
+
+    private static void kinAfterDrop() {
+        due.says(9, "The latest RECORD is there no more");
+        KinBench x = new KinBench();
+        for (int i = 0; i < 6; i++) {
+            x.birth(1800, 1, ANN, ANNA, HANS);
+            due.is("mother", x.kin(0, 0, 1), 100);
+            due.is("drop", x.drop(), true);
+            x.found(1800, 1, ANN);
+            x.wedding(1800, ANNA, HANS);
+            due.is("no mother", x.kin(0, 0, 1), NONE);
+            due.is("never a mother", x.always(0, 1), NONE);
+            due.is("drop", x.drop() && x.drop(), true);
+        }
     }
 
     private static void longestKin() {

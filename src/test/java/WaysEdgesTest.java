@@ -14,6 +14,8 @@ public final class WaysEdgesTest {
     private static final int[][] LAWS = {{14, 50, 70, 100, 2}, {0, 0, 0, 1, 0}, {0, 80, 120, 130, 20},
         {40, 40, 40, 40, 20}, {40, 80, 120, 130, 1}, {1, 2, 3, 4, 5}};
 
+    private static final int[][] ORDERS = {{0, 1, 2}, {0, 2, 1}, {1, 0, 2}, {1, 2, 0}, {2, 0, 1}, {2, 1, 0}};
+
     public static void main(String[] args) {
         for (int[] laws : LAWS) {
             children(laws);
@@ -32,6 +34,13 @@ public final class WaysEdgesTest {
         lastYears();
         sexesAlike();
         sexesOfThree();
+        for (int[] order : ORDERS) {
+            yearsOfThree(order);
+            deathOfThree(order);
+            childrenOfThree(order);
+            deathsOfThree(order);
+        }
+        recordOfThree();
         ofOneRecord();
         oneChild();
         oneDeath();
@@ -227,6 +236,72 @@ public final class WaysEdgesTest {
             boolean both = (sexes[0] | sexes[1] | sexes[2]) == 3;
             due.is("ways of " + sexes[0] + ", " + sexes[1] + ", " + sexes[2], x.ways(), both ? 3 : 5);
         }
+    }
+
+    /** The first might be either of the others, who can't be one: so there are three ways, as in all that follow. */
+    private static void yearsOfThree(int[] order) {
+        due.says(15, "for each PERSON there is a year of birth b such that: (all its ROLES)");
+        KinBench x = under(14, 50, 70, 100, 0);
+        for (int i : order) {
+            x.list(i == 0 ? 1800 : 1790, 0, 0, i == 0 ? NONE : i == 1 ? 10 : 11);
+        }
+        due.is("ages 10 and 11 have a year of birth in common", x.ways(), 5);
+        KinBench y = under(14, 50, 70, 100, 0);
+        for (int i : order) {
+            y.list(i == 0 ? 1800 : 1790, 0, 0, i == 0 ? NONE : i == 1 ? 10 : 12);
+        }
+        due.is("ages 10 and 12 have none", y.ways(), 3);
+    }
+
+    private static void deathOfThree(int[] order) {
+        due.says(15, "if it has a DEATH in year e: each other YEAR of its ROLES is at most e");
+        for (int last = 1820; last <= 1821; last++) {
+            KinBench x = new KinBench();
+            for (int i : order) {
+                if (i == 0) {
+                    x.list(1800, 0, 0, NONE);
+                } else if (i == 1) {
+                    x.list(last, 0, 0, NONE);
+                } else {
+                    x.death(1820, 0, 0, NONE);
+                }
+            }
+            due.is("dead in 1820, listed in 1800 and " + last, x.ways(), last == 1820 ? 5 : 3);
+        }
+    }
+
+    private static void childrenOfThree(int[] order) {
+        due.says(15, "it is at most one child");
+        KinBench x = new KinBench();
+        for (int i : order) {
+            Telling.tell(x, i == 0 ? Telling.LIST : Telling.FOUND, 1800, 0);
+        }
+        due.is("one listed, two found", x.ways(), 3);
+    }
+
+    private static void deathsOfThree(int[] order) {
+        due.says(15, "and in one DEATH at most");
+        KinBench x = new KinBench();
+        for (int i : order) {
+            Telling.tell(x, i == 0 ? Telling.LIST : Telling.DEATH, 1800, 0);
+        }
+        due.is("one listed, two dead", x.ways(), 3);
+    }
+
+    private static void recordOfThree() {
+        due.says(15, "the ROLES of one RECORD are of different PERSONS");
+        KinBench x = new KinBench();
+        x.list(1800, 0, 0, NONE);
+        x.witness(1800, 0, 0, 0, 0);
+        due.is("one listed, two witnesses", x.ways(), 3);
+        KinBench y = new KinBench();
+        y.witness(1800, 0, 0, 0, 0);
+        y.list(1800, 0, 0, NONE);
+        due.is("two witnesses, one listed", y.ways(), 3);
+        KinBench z = new KinBench();
+        z.witness(1800, 0, 0, 0, 0);
+        z.witness(1800, 0, 0, 0, 0);
+        due.is("two and two witnesses", z.ways(), 1 + 4 + 2);
     }
 
     private static void ofOneRecord() {

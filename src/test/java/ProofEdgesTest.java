@@ -44,6 +44,8 @@ public final class ProofEdgesTest {
         alwaysNone();
         alwaysDiffers();
         alwaysWithoutWays();
+        fullBench();
+        refusedQuestions();
         due.end();
     }
 
@@ -527,5 +529,67 @@ public final class ProofEdgesTest {
         due.is("itself", x.always(0, 0), -3);
         due.is("mother", x.always(0, 1), -3);
         due.is("no RECORDS", new KinBench().always(0, 0), -3);
+    }
+
+    /** Eight records and fourteen roles, all of whom are others. */
+    private static KinBench full() {
+        KinBench x = new KinBench();
+        for (int i = 0; i < 6; i++) {
+            x.wedding(400 * i, ANN, HANS);
+        }
+        x.found(2600, 1, ANN);
+        x.death(2800, 2, HANS, 10);
+        x.budget(14, 1);
+        return x;
+    }
+
+    private static void fullBench() {
+        due.says(21, "RECORDS, 8 at most; ROLES, 14 in all");
+        KinBench x = full();
+        due.is("RECORDS", x.about(0), 8);
+        due.is("ROLES", x.about(1), 14);
+        due.is("ways", x.ways(), 1);
+        due.is("tries", x.about(3), 14 * 15 / 2);
+        due.is("cost", x.cost(0), 14);
+        for (int role = 0; role < 14; role++) {
+            due.is("person of " + role, x.person(0, role), role);
+            due.is("link with itself, " + role, x.link(role, role), 1);
+            due.is("link with the last, " + role, x.link(role, 13), role == 13 ? 1 : 0);
+            due.is("why with itself, " + role, x.why(role, role), 1 << (role < 12 ? role / 2 : role - 6));
+            due.is("kin of the last, " + role, x.kin(0, role, 13), role == 13 ? 0 : NONE);
+        }
+        due.is("quarrel", x.quarrel(), NONE);
+        x.budget(13, 1);
+        due.is("one too little", x.ways(), 0);
+        due.is("all quarrel", x.quarrel(), 255);
+        x.budget(12, 1);
+        due.is("the six weddings and the found, one less", x.quarrel(), 127);
+        x.budget(11, 1);
+        due.is("the six weddings", x.quarrel(), 63);
+    }
+
+    private static void refusedQuestions() {
+        due.says(24, "no question changes what a later call shows, but for TRIES once the WAYS are sought");
+        KinBench x = full();
+        KinBench y = full();
+        due.is("ways of both", x.ways(), y.ways());
+        for (int wrong : new int[] {-1, 14, LEAST, MOST}) {
+            x.role(wrong, wrong);
+            x.role(0, wrong);
+            x.person(wrong, wrong);
+            x.person(wrong, 13);
+            x.cost(wrong);
+            x.link(wrong, 0);
+            x.first(0, wrong, false);
+            x.why(wrong, 0);
+            x.kin(wrong, 0, 13);
+            x.kin(0, wrong, wrong);
+            x.always(0, wrong);
+            x.about(wrong);
+            x.far(wrong, ANN);
+        }
+        x.quarrel();
+        x.why(0, 0);
+        Alike.check(due, "questions without answers", x, y);
     }
 }

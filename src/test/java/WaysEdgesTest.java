@@ -29,6 +29,7 @@ public final class WaysEdgesTest {
                 listedAged(laws, age);
             }
         }
+        lateFathers();
         noYearOfBirth();
         bornBeforeYears();
         lastYears();
@@ -158,6 +159,34 @@ public final class WaysEdgesTest {
     private static void listedAged(int[] laws, int age) {
         due.says(15, "of a LIST y - a - 1 - ROUND to y - a + ROUND");
         window(laws, Telling.LIST, 0, age, -age - 1 - laws[4], -age + laws[4]);
+    }
+
+    /** Only a father may be of a year after the DEATH, so he alone tells that nobody is born after it. */
+    private static void lateFathers() {
+        due.says(15, "DEATH, LIST without an AGE: y - LIFE to y; with AGE a: y - a - 1 to y - a");
+        for (int kind : new int[] {Telling.DEATH, Telling.LIST}) {
+            for (int father = 0; father <= 1; father++) {
+                lateFather(kind, father, NONE);
+                lateFather(kind, father, 0);
+            }
+        }
+    }
+
+    private static void lateFather(int kind, int father, int age) {
+        KinBench x = under(0, 0, father, 100, 0);
+        KinBench y = under(0, 0, father, 100, 0);
+        x.birth(1801, 0, 0, 0, 0);
+        for (KinBench bench : new KinBench[] {x, y}) {
+            if (kind == Telling.DEATH) {
+                bench.death(1800, 0, 0, age);
+            } else {
+                bench.list(1800, 0, 0, age);
+            }
+        }
+        y.birth(1801, 0, 0, 0, 0);
+        String call = Telling.nameOf(kind) + " in 1800, age " + age + ", father in 1801 at " + father;
+        due.is(call, x.link(2, 3), father == 1 ? OPEN : BARRED);
+        due.is(call + ", after", y.link(0, 3), father == 1 ? OPEN : BARRED);
     }
 
     private static void noYearOfBirth() {
